@@ -153,6 +153,8 @@ public final class PromisesTest {
         due("what was read ahead of a fault is gone", Check.maze(x, "c;c1>a1"), 0);
         for (int room = 0; room < 3; room++) {
             due("no door is left of it", x.leads(0, room, 0), -1);
+            due("nor does one lead on", x.walker(1, room, 0), room);
+            due("wants none of them", x.told(room, 7), room == 2 ? 1 : -1);
         }
     }
 
@@ -210,6 +212,10 @@ public final class PromisesTest {
         textFault("go x;", 3);
         textFault("go camel;", 3);
         textFault("go cam;", 3);
+        textFault("go lame;", 3);
+        textFault("go bagz;", 3);
+        textFault("go zbag;", 3);
+        textFault("go 1;xut 1;", 5);
         textFault("go 1 bags;", 5);
         textFault("go 12345;", 3);
         textFault("go 00001;", 3);
@@ -612,11 +618,17 @@ public final class PromisesTest {
         due("as it is now: 1", x.told(0, 7), 1);
         x.step(0, 1);
         due("behind the put: 2", x.told(0, 3), 2);
-        x.walker(3, 0, 301);
+        x.walker(3, 0, 300);
+        x.walker(4, 0, 0);
         x.pebbles(0, 0, 0);
-        due("TOLD wants 1 as yet", x.told(1, 7), 1);
         x.step(1, 1);
-        due("TOLD behind its own pebble: 3", x.told(1, 3), 3);
+        due("TOLD without a pebble: 1", x.told(1, 3), 1);
+        x.step(2, 1);
+        due("SHY without a pebble: the least", x.told(2, 3), 0);
+        x.walker(3, 0, 301);
+        due("TOLD wants 1 as yet", x.told(3, 7), 1);
+        x.step(3, 1);
+        due("TOLD behind its own pebble: 3", x.told(3, 3), 3);
     }
 
     /** The words of a STEP name no end of a bag, so a pebble that lies there is taken. */
@@ -688,7 +700,38 @@ public final class PromisesTest {
         x.pebbles(1, 0, 2);
         due("step is 0 in it: two are taken", x.ring(1, 0), 2);
         due("and it is the steps again behind it", x.says(0, 0), 7);
+        ringWithoutSteps();
+        ringOfEachRoom();
         ringFar();
+    }
+
+    private static void ringWithoutSteps() {
+        ElevenPebbles x = Check.with("a;a0-a0");
+        Check.text(x, "go 0;put 0;take step<2;");
+        x.force(1);
+        x.walker(0, 0, 0);
+        x.pebbles(0, 0, 6);
+        due("by its steps two are taken", x.run(0, 9, 1), 2);
+        due("in a ring all six", x.ring(0, 0), 6);
+        due("round in one", x.ring(0, 1), 1);
+    }
+
+    /** Ten rooms round, gone round once: what lies in each room is told from what lay there. */
+    private static void ringOfEachRoom() {
+        for (int room = 0; room < 10; room++) {
+            ElevenPebbles x = Check.with("j;a0>b0;b0>c0;c0>d0;d0>e0;e0>f0;f0>g0;g0>h0;h0>i0;i0>j0;j0>a0");
+            Check.text(x, "go 0;put 0;take 0;");
+            Check.text(x, "go 0;put bag=1;take bag=0;");
+            x.force(1);
+            x.walker(0, 0, 0);
+            x.step(0, room);
+            due("doors gone are new for ten less " + room, x.ring(0, 0), 10 - room);
+            x.step(0, 10 - room);
+            x.pebbles(0, room, 1);
+            x.force(2);
+            due("from the first, with a pebble in room " + room, x.ring(0, 0), 0);
+            due("ten times eleven: each 11 STEPS it is one room on", x.ring(0, 1), 110);
+        }
     }
 
     /** A walker who stays and takes one pebble a STEP: n pebbles, then round in one. */
@@ -1043,6 +1086,10 @@ public final class PromisesTest {
         due("door 3 leads nowhere", x.begins(0, 3, 1), 39);
         due("anew", x.sheet(3, 2, 40), 1);
         due("all 0", x.begins(0, 3, 1), -1);
+        x.cell(3, 0, 3);
+        due("item 0 is 3", x.begins(0, 3, 1), 0);
+        x.sheet(3, 2, 40);
+        due("item 0 is 0", x.begins(0, 3, 1), -1);
         due("41", x.sheet(3, 2, 41), ElevenPebbles.BAD);
         due("-1", x.sheet(3, 2, -1), -14);
         due("sort 3", x.sheet(3, 3, 1), ElevenPebbles.BAD);
