@@ -18,8 +18,7 @@ public final class ElevenPebbles {
     private static final int CAME = 0, LEADING = 1, LYING = 2, BAG = 3, STEPS = 4, NUMBER = 5, NAMES = 6;
     private static final String FIRST_TEXT = "go 1 ; put pebbles = 0 ; take 0 ;";
 
-    private final byte[] tape = new byte[TAPE_SIZE];
-    private int tapeSize;
+    private final Tape tape = new Tape();
     private final Maze[] mazes = new Maze[MAZES];
     private int mazeCount;
     private final Walker[] walkers = new Walker[WALKERS];
@@ -29,7 +28,6 @@ public final class ElevenPebbles {
     private int ruleNow;
     private final Sheet[] sheets = new Sheet[SHEETS];
     private final Image kept = new Image();
-    private final TextReader textReader = new TextReader(tape);
     private final Sight sight = new Sight();
     private final Walker ghost = new Walker();
     private final Walker otherGhost = new Walker();
@@ -61,23 +59,23 @@ public final class ElevenPebbles {
         if (n < 1 || n > 8) {
             return BAD;
         }
-        if (n > TAPE_SIZE - tapeSize) {
+        if (n > TAPE_SIZE - tape.size) {
             return FULL;
         }
         long rest = bytes;
         for (int k = 0; k < n; k++) {
-            appendByte((byte) rest);
+            tape.append((byte) rest);
             rest = rest >> 8;
         }
-        return tapeSize;
+        return tape.size;
     }
 
     public int maze() {
         if (mazeCount >= MAZES) {
             return FULL;
         }
-        int fault = mazes[mazeCount].read(tape, tapeSize);
-        tapeSize = 0;
+        int fault = mazes[mazeCount].read(tape.bytes, tape.size);
+        tape.size = 0;
         if (fault != NONE) {
             return FAULTS - fault;
         }
@@ -89,12 +87,12 @@ public final class ElevenPebbles {
         if (ruleCount >= TEXTS) {
             return FULL;
         }
-        int fault = textReader.read(tapeSize);
-        tapeSize = 0;
+        int fault = tape.readText();
+        tape.size = 0;
         if (fault != NONE) {
             return FAULTS - fault;
         }
-        rules[ruleCount].become(textReader.made);
+        rules[ruleCount].become(tape.made);
         ruleCount++;
         return ruleCount - 1;
     }
@@ -382,7 +380,7 @@ public final class ElevenPebbles {
             case 0: return mazeCount;
             case 1: return walkerCount;
             case 2: return ruleCount;
-            case 3: return tapeSize;
+            case 3: return tape.size;
             case 4: return ruleNow;
             case 5: return sumOfLying();
             case 6: return sumOfBags();
@@ -523,23 +521,14 @@ public final class ElevenPebbles {
         return false;
     }
 
-    // ---- the tape
-
-    private void appendByte(byte b) {
-        if (tapeSize >= 0 && tapeSize < TAPE_SIZE) {
-            tape[tapeSize] = b;
-            tapeSize++;
-        }
-    }
-
     private void readFirstText() {
         for (int k = 0; k < FIRST_TEXT.length(); k++) {
-            appendByte((byte) FIRST_TEXT.charAt(k));
+            tape.append((byte) FIRST_TEXT.charAt(k));
         }
-        textReader.read(tapeSize);
-        rules[0].become(textReader.made);
+        tape.readText();
+        rules[0].become(tape.made);
         ruleCount = 1;
-        tapeSize = 0;
+        tape.size = 0;
     }
 
     // ---- steps
@@ -555,36 +544,45 @@ public final class ElevenPebbles {
             return NONE;
         }
         sight.look(w, m, m.pebbles);
-        return wants(w, m, itemAt(m.pebbles, w.room) > 0);
+        return wants(w, m.leading(w.room), itemAt(m.pebbles, w.room) > 0, saying(GO));
     }
 
-    /** The door that a walker takes; sight must have been turned to it. */
-    private int wants(Walker w, Maze m, boolean pebblesLie) {
+    /** The door that a walker takes, of those that lead on (bits). */
+    private static int wants(Walker w, int leading, boolean pebblesLie, int go) {
+        int fresh = leading & ~w.goneFromHere();
+        int byRule = firstFrom(leading, w.came + go);
         switch (w.kind) {
-            case HAND: return m.firstFrom(w.room, w.came + 1);
-            case TOLD: return m.firstFrom(w.room, w.came + (pebblesLie ? w.number : 1));
-            case DRAWS: return wantsNew(w, m, false);
-            case LOST: return wantsNew(w, m, true);
+            case HAND: return firstFrom(leading, w.came + 1);
+            case TOLD: return firstFrom(leading, w.came + (pebblesLie ? w.number : 1));
+            case DRAWS: return fresh != 0 ? firstFrom(fresh, 0) : byRule;
+            case LOST: return fresh != 0 ? greatestOf(fresh) : byRule;
             case SHY:
-                boolean turnsBack = pebblesLie && m.target(w.room, w.came) != NONE;
-                return turnsBack ? w.came : wantsNew(w, m, false);
-            default: return wantsByRule(w, m);
+                if (pebblesLie && (leading >> w.came & 1) != 0) {
+                    return w.came;
+                }
+                return fresh != 0 ? firstFrom(fresh, 0) : byRule;
+            default: return byRule;
         }
     }
 
-    private int wantsNew(Walker w, Maze m, boolean greatest) {
-        int fresh = m.leading(w.room) & ~w.goneFromHere();
+    /** The mask is modulo 4, not below 0, even where the sum has wrapped. */
+    private static int firstFrom(int doors, int from) {
         for (int k = 0; k < DOORS; k++) {
-            int door = greatest ? DOORS - 1 - k : k;
-            if ((fresh >> door & 1) != 0) {
+            int door = (from + k) & 3;
+            if ((doors >> door & 1) != 0) {
                 return door;
             }
         }
-        return wantsByRule(w, m);
+        return NONE;
     }
 
-    private int wantsByRule(Walker w, Maze m) {
-        return m.firstFrom(w.room, w.came + saying(GO));
+    private static int greatestOf(int doors) {
+        for (int door = DOORS - 1; door >= 0; door--) {
+            if ((doors >> door & 1) != 0) {
+                return door;
+            }
+        }
+        return NONE;
     }
 
     /** One step over a row of pebbles, which is the maze's own or a copy of it. */
@@ -600,7 +598,7 @@ public final class ElevenPebbles {
         }
         setItem(pebbles, w.room, lie);
         sight.look(w, m, pebbles);
-        int door = wants(w, m, lie > 0);
+        int door = wants(w, m.leading(w.room), lie > 0, saying(GO));
         int to = m.target(w.room, door);
         if (to != NONE) {
             w.goThrough(door, to / 10, to % 10);
@@ -698,18 +696,6 @@ public final class ElevenPebbles {
 
         int leading(int room) {
             return hasRoom(room) ? itemAt(leadOn, room) : 0;
-        }
-
-        /** The mask is modulo 4, not below 0, even where the sum has wrapped. */
-        int firstFrom(int room, int from) {
-            int bits = leading(room);
-            for (int k = 0; k < DOORS; k++) {
-                int door = (from + k) & 3;
-                if ((bits >> door & 1) != 0) {
-                    return door;
-                }
-            }
-            return NONE;
         }
 
         /** Reads itself from a tape: the place of the first fault, or NONE. */
@@ -895,31 +881,35 @@ public final class ElevenPebbles {
         }
     }
 
-    private static final class TextReader {
-        /** A sign is its own byte as a token; these lie below all signs. */
-        private static final int END = 0, WRONG = 1, NUMERAL = 2, WORD = 10;
+    /** The tape, and the reading of a text from it: first its tokens, then what they say. */
+    private static final class Tape {
+        /** A sign is its own byte as a token; a number is NUMERAL and more. */
+        private static final int END = 0, WRONG = 1, WORD = 10, NUMERAL = 1000;
         private static final int WORD_GO = 16, WORD_OR = 19, WORD_AND = 20, WORD_NOT = 21, WORDS = 12;
         private static final int MOST_DIGITS = 4, MOST_OPEN = 5;
-        final byte[] tape;
-        final Rule made = new Rule();
+        final byte[] bytes = new byte[TAPE_SIZE];
         int size;
-        int place;
-        int next;
+        final int[] tokens = new int[TAPE_SIZE + 1];
+        final int[] places = new int[TAPE_SIZE + 1];
+        final Rule made = new Rule();
+        int at;
         int token;
-        int numeral;
         int fault;
 
-        TextReader(byte[] tape) {
-            this.tape = tape;
+        void append(byte b) {
+            if (size >= 0 && size < TAPE_SIZE) {
+                bytes[size] = b;
+                size++;
+            }
         }
 
         /** The place of the first fault, or NONE: then the text is in made. */
-        int read(int tapeSize) {
-            size = Math.min(tapeSize, tape.length);
-            next = 0;
+        int readText() {
+            scan();
+            at = 0;
+            token = tokens[0];
             fault = NONE;
             made.size = 0;
-            advance();
             for (int key = GO; key < SAYINGS; key++) {
                 expect(WORD_GO + key);
                 readOr(0);
@@ -932,10 +922,81 @@ public final class ElevenPebbles {
             return fault;
         }
 
+        /** Each token takes a byte at least, so that the rows hold them all, and the end. */
+        private void scan() {
+            int place = 0;
+            for (int k = 0; k <= TAPE_SIZE; k++) {
+                while (place < size && isBlank(byteAt(place))) {
+                    place++;
+                }
+                int end = endOf(place);
+                places[k] = place;
+                tokens[k] = tokenOf(place, end);
+                if (tokens[k] == END || tokens[k] == WRONG) {
+                    return;
+                }
+                place = end;
+            }
+        }
+
+        private int endOf(int place) {
+            boolean word = isLetter(byteAt(place));
+            boolean numeral = isDigit(byteAt(place));
+            int end = place + 1;
+            while (end < size && (word && isLetter(byteAt(end)) || numeral && isDigit(byteAt(end)))) {
+                end++;
+            }
+            return end;
+        }
+
+        private int tokenOf(int place, int end) {
+            int b = byteAt(place);
+            if (place >= size) {
+                return END;
+            }
+            if (isLetter(b)) {
+                return wordOf(place, end);
+            }
+            if (isDigit(b)) {
+                return numeralOf(place, end);
+            }
+            return isSign(b) ? b : WRONG;
+        }
+
+        private int wordOf(int place, int end) {
+            for (int k = 0; k < WORDS; k++) {
+                String word = wordAt(k);
+                boolean same = word.length() == end - place;
+                for (int i = 0; i < word.length() && same; i++) {
+                    same = word.charAt(i) == byteAt(place + i);
+                }
+                if (same) {
+                    return WORD + k;
+                }
+            }
+            return WRONG;
+        }
+
+        private int numeralOf(int place, int end) {
+            if (end - place > MOST_DIGITS) {
+                return WRONG;
+            }
+            int v = 0;
+            for (int i = place; i < end; i++) {
+                v = 10 * v + byteAt(i) - '0';
+            }
+            return NUMERAL + v;
+        }
+
+        private void advance() {
+            at++;
+            token = itemAt(tokens, at);
+        }
+
         /** The first fault stays; behind it no token fits, so that all that is open ends. */
         private void refuse() {
             if (fault == NONE) {
-                fault = place;
+                fault = itemAt(places, at);
             }
             token = WRONG;
         }
@@ -946,6 +1007,15 @@ public final class ElevenPebbles {
             } else {
                 refuse();
             }
+        }
+
+        private boolean mayOpen(int open) {
+            if (open >= MOST_OPEN) {
+                refuse();
+                return false;
+            }
+            advance();
+            return true;
         }
 
         private void readOr(int open) {
@@ -1003,8 +1073,8 @@ public final class ElevenPebbles {
         }
 
         private void readOne(int open) {
-            if (token == NUMERAL) {
-                made.add(numeral);
+            if (token >= NUMERAL) {
+                made.add(token - NUMERAL);
                 advance();
             } else if (token >= WORD && token < WORD_GO) {
                 made.add(Rule.NAME - (token - WORD));
@@ -1024,68 +1094,8 @@ public final class ElevenPebbles {
             }
         }
 
-        private boolean mayOpen(int open) {
-            if (open >= MOST_OPEN) {
-                refuse();
-                return false;
-            }
-            advance();
-            return true;
-        }
-
-        private void advance() {
-            while (next < size && isBlank(byteAt(next))) {
-                next++;
-            }
-            place = next;
-            int b = byteAt(place);
-            if (place >= size) {
-                token = END;
-            } else if (isLetter(b)) {
-                token = readWord();
-            } else if (isDigit(b)) {
-                token = readNumeral();
-            } else {
-                next = place + 1;
-                token = isSign(b) ? b : WRONG;
-            }
-        }
-
-        private int readWord() {
-            while (next < size && isLetter(byteAt(next))) {
-                next++;
-            }
-            for (int k = 0; k < WORDS; k++) {
-                if (isHere(wordAt(k))) {
-                    return WORD + k;
-                }
-            }
-            return WRONG;
-        }
-
-        private int readNumeral() {
-            numeral = 0;
-            while (next < size && isDigit(byteAt(next))) {
-                numeral = 10 * numeral + byteAt(next) - '0';
-                next++;
-            }
-            return next - place > MOST_DIGITS ? WRONG : NUMERAL;
-        }
-
-        private boolean isHere(String word) {
-            if (word.length() != next - place) {
-                return false;
-            }
-            for (int k = 0; k < word.length(); k++) {
-                if (word.charAt(k) != byteAt(place + k)) {
-                    return false;
-                }
-            }
-            return true;
-        }
-
-        private int byteAt(int i) {
-            return i >= 0 && i < tape.length ? tape[i] : NONE;
+        private int byteAt(int place) {
+            return place >= 0 && place < TAPE_SIZE ? bytes[place] : NONE;
         }
 
         /** The names stand in the order of Sight, then go, put, take in that of the sayings. */
@@ -1266,10 +1276,10 @@ public final class ElevenPebbles {
         int tail;
 
         int least(Maze m, int first) {
-            for (int k = 0; k < stood.length; k++) {
+            int whole = (1 << m.rooms) - 1;
+            for (int k = 0; k <= whole && k < stood.length; k++) {
                 stood[k] = 0;
             }
-            int whole = (1 << m.rooms) - 1;
             tail = 0;
             add(0, 1 << first, first);
             for (int head = 0; head < tail && head < STATES; head++) {

@@ -14,6 +14,7 @@ public final class PromisesTest {
         text();
         textFaults();
         textOpens();
+        textBehindAnother();
         force();
         leads();
         pebbles();
@@ -248,6 +249,19 @@ public final class PromisesTest {
         textFault("go \u00ff;", 3);
         textFault("go 1/2;", 4);
         textFault("go 1>2;", 4);
+    }
+
+    /** What an elder tape held behind the end of this one is not looked at. */
+    private static void textBehindAnother() {
+        ElevenPebbles x = new ElevenPebbles();
+        due("golf", Check.text(x, "golf"), -100);
+        due("go", Check.text(x, "go"), -102);
+        due("go 12345", Check.text(x, "go 12345"), -103);
+        due("go 1", Check.text(x, "go 1"), -104);
+        due("go 1  ;", Check.text(x, "go 1   ;"), -108);
+        due("go 1 with blanks behind", Check.text(x, "go 1"), -104);
+        due("a maze", Check.maze(x, "b;a0-b0"), 0);
+        due("a shorter one", Check.maze(x, "b;a0-"), -105);
     }
 
     private static void textOpens() {
