@@ -249,6 +249,9 @@ public final class PromisesTest {
         textFault("go \u00ff;", 3);
         textFault("go 1/2;", 4);
         textFault("go 1>2;", 4);
+        textFault(";".repeat(160), 0);
+        textFault("go 1" + "+1".repeat(78), 160);
+        textFault("go " + "1".repeat(157), 3);
     }
 
     /** What an elder tape held behind the end of this one is not looked at. */
@@ -486,6 +489,15 @@ public final class PromisesTest {
         due("LOST went by both, came by 0", x.told(1, 8) * 10 + x.told(1, 3), 50);
         due("DRAWS as a WALKER: from 1 and 1", x.told(0, 7), 2);
         due("LOST as a WALKER: from 0 and 1", x.told(1, 7), 2);
+        x.walker(4, 0, 0);
+        x.step(2, 2);
+        due("SHY went by both, came by 1", x.told(2, 8) * 10 + x.told(2, 3), 51);
+        due("SHY as a WALKER: from 1 and 1", x.told(2, 7), 2);
+        Check.text(x, "go 3;put 0;take 0;");
+        x.force(1);
+        for (int walker = 0; walker < 3; walker++) {
+            due("by the rule: from CAME and 3", x.told(walker, 7), 0);
+        }
     }
 
     // ---- promise 10
