@@ -372,7 +372,7 @@ public final class ElevenPebbles {
         for (int k = 0; k < kept.walkers; k++) {
             walkers[k].become(kept.states[k]);
         }
-        return kept.walkers;
+        return walkerCount;
     }
 
     public int count(int what) {

@@ -720,7 +720,7 @@ final class Model {
         for (int k = 0; k < keptWalkers.size(); k++) {
             walkers.set(k, keptWalkers.get(k).copy());
         }
-        return keptWalkers.size();
+        return walkers.size();
     }
 
     int count(int what) {

@@ -1030,13 +1030,13 @@ public final class PromisesTest {
         due("one who came since", x.walker(0, 3, 7), 2);
         x.step(2, 2);
         String third = walkerState(x, 2);
-        due("back: two are as they were", x.back(), 2);
+        due("back: two are as they were, and one came since", x.back(), 3);
         Check.that("all is as it was", then.equals(state(x)));
         Check.that("who came since stays", third.equals(walkerState(x, 2)));
         due("the text is still there", x.count(2), 2);
         due("three walkers", x.count(1), 3);
         x.step(0, 5);
-        due("back once more", x.back(), 2);
+        due("back once more", x.back(), 3);
         Check.that("the image stays", then.equals(state(x)));
         x.step(0, 1);
         due("a later image", x.image(), 3);
@@ -1045,7 +1045,23 @@ public final class PromisesTest {
         x.step(0, 1);
         due("back to it", x.back(), 3);
         Check.that("takes the elder one's place", later.equals(state(x) + walkerState(x, 2)));
+        due("one more who came since", x.walker(4, 1, 0), 3);
+        due("back: all who are there count", x.back(), x.count(1));
+        walkersOfNoneSince();
         mazesSince();
+    }
+
+    /** THE IMAGE had none: those that came by walker and by walkers since count in back's answer. */
+    private static void walkersOfNoneSince() {
+        ElevenPebbles x = Check.with("a");
+        x.sheet(0, 1, 3);
+        due("an image of none", x.image(), 0);
+        due("one by a sheet", x.walkers(0, 1, 0, 1), 1);
+        due("back: one", x.back(), 1);
+        due("one by a call", x.walker(3, 0, 205), 1);
+        due("back: two", x.back(), 2);
+        due("as it was made", x.told(1, 5), 5);
+        due("none more came", x.count(1), 2);
     }
 
     /** Words name walkers that came since; of mazes that came since the image keeps nothing, so they stay too. */
