@@ -136,6 +136,10 @@ public final class KnownBoundsTest {
             due("NONE: " + pair[0] + " and " + pair[1], x.tells(pair[0], pair[1], 0), NONE);
             due("NONE for the walk, too", x.tells(pair[0], pair[1], 1), NONE);
         }
+        ElevenPebbles y = Check.with("f;a0>b0;b0>c0;c0>d0;e0>e0;f0>f0");
+        due("two that are parted", y.tells(0, 1, 0), 2);
+        due("NONE behind them", y.tells(4, 5, 0), NONE);
+        due("NONE for the walk behind them", y.tells(4, 5, 1), NONE);
     }
 
     /** "of like ones the first by DOORS" */
@@ -208,6 +212,9 @@ public final class KnownBoundsTest {
             due("from room " + room + " to a", x.way(0, 10 * room), room == 0 ? 0 : NONE);
             due("round to a", x.way(1, 10 * room), (10 - room) % 10);
             due("no doors", x.way(3, room), room == 0 ? 0 : NONE);
+        }
+        for (int room = 8; room >= 0; room--) {
+            due("from j to room " + room, x.way(0, 90 + room), NONE);
         }
         due("one room", x.way(2, 0), 0);
         due("from j to i", x.way(1, 98), 9);

@@ -667,6 +667,7 @@ public final class WalkerBoundsTest {
         x.walker(0, 11, 0);
         x.walker(0, 10, 0);
         due("the lesser stays, then the other comes", x.meet(3, 4), 2);
+        due("the lesser is first, told the other way about", x.meet(4, 3), 2);
         x.walker(0, 10, 0);
         due("of two in one room, none has gone", x.meet(5, 4), 0);
     }
