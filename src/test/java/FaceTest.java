@@ -62,6 +62,35 @@ public final class FaceTest {
             }
         }
         Check.that("twelve classes at most", c.getDeclaredClasses().length + 1 <= 12);
+        fields(c);
+        for (Class<?> inside : c.getDeclaredClasses()) {
+            fields(inside);
+        }
+    }
+
+    /** Static fields are final and of few types; a class has some twenty others. */
+    private static void fields(Class<?> c) {
+        Set<Class<?>> constants = Set.of(int.class, long.class, boolean.class, char.class, String.class,
+            int[].class, long[].class, char[].class, byte[].class);
+        int own = 0;
+        for (Field f : c.getDeclaredFields()) {
+            if (Modifier.isStatic(f.getModifiers())) {
+                Check.that(f + " is a constant", Modifier.isFinal(f.getModifiers()) && constants.contains(f.getType()));
+            } else {
+                own++;
+                Check.that(f + " is of a type that is left", isLeft(f.getType()));
+            }
+        }
+        Check.that(c + " has twenty fields at most", own <= 20);
+    }
+
+    /** Numbers, booleans, String, own classes; arrays of them; arrays of two dimensions of numbers alone. */
+    private static boolean isLeft(Class<?> type) {
+        Class<?> item = type.isArray() ? type.getComponentType() : type;
+        if (item.isArray()) {
+            return item.getComponentType().isPrimitive() && item.getComponentType() != boolean.class;
+        }
+        return item.isPrimitive() || item == String.class && !type.isArray() || item.getEnclosingClass() == ElevenPebbles.class;
     }
 
     private static String signature(Method m) {
@@ -82,6 +111,11 @@ public final class FaceTest {
         }
         Check.that("no lambda, no method reference", !code.contains("->") && !code.contains("::"));
         Check.that("no sign beyond 127", source.chars().allMatch(b -> b < 128));
+        Matcher method = Pattern.compile("(?m)^( +)[^\n=;]*\\) \\{\n((?:\\1 .*\n|\n)*)\\1\\}$").matcher(code);
+        while (method.find()) {
+            long lines = method.group(2).lines().count();
+            Check.that(method.group().lines().findFirst().orElse("") + " has " + lines + " lines", lines <= 60);
+        }
         Matcher library = Pattern.compile("\\b(Math|Integer|Long|System|Arrays)\\.(\\w+)").matcher(code);
         Set<String> allowed = Set.of("Math.min", "Math.max", "Integer.bitCount", "System.arraycopy");
         while (library.find()) {
